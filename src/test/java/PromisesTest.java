@@ -534,10 +534,11 @@ public final class PromisesTest {
 
     private static void judgingOfBytes() {
         part = "9 call: bytes are judged as they are read";
-        due("BAD cell ahead of the end", faultAtEnd(SET, 200), BAD_CODE);
-        due("the end", faultAtEnd(SET, G0), PLACE);
-        due("beyond, the code itself", faultAtEnd(SET, G0, 1), PLACE);
-        due("of CALL: its n", faultAtEnd(CALL, G0, 5), PLACE);
+        due("a BAD cell ahead of the end", faultAtEnd(6, SET, 200), BAD_CODE);
+        due("the end", faultAtEnd(6, SET, G0), PLACE);
+        due("the code itself is beyond", faultAtEnd(8, SET, G0, 1), PLACE);
+        due("the n of CALL is beyond", faultAtEnd(5, CALL, G0, 5), PLACE);
+        due("a value of CALL is beyond", faultAtEnd(4, CALL, G0, 5, 1), PLACE);
         due("BAD ahead of ZERO", value(OVER, G0, 1, 255), BAD_CODE);
         due("a local it has not", localOf(7, 135), BAD_CODE);
         due("a local it has", localOf(8, 135), 0);
@@ -560,20 +561,15 @@ public final class PromisesTest {
         due("value", x.result(), 5);
     }
 
-    /** Of a routine at 1020 whose bytes end with memory; a longer one begins there by a jump. */
-    private static int faultAtEnd(int... bytes) {
+    /** A routine at 1016 jumps to bytes that end with memory; the offset told must be this. */
+    private static int faultAtEnd(int offset, int... bytes) {
         MadeCalls x = new MadeCalls(1);
-        write(x, 1020, 0);
         int from = 1024 - bytes.length;
-        if (from == 1021) {
-            write(x, from, bytes);
-        } else {
-            write(x, 1016, 0, JUMP, from - 1016);
-            write(x, from, bytes);
-        }
-        int answer = x.call(from == 1021 ? 1020 : 1016, 0);
-        due("offset of " + bytes.length, x.fault(1),
-            from != 1021 ? from - 1016 : bytes[0] == CALL ? 1 : 4);
+        write(x, 1016, 0, JUMP, from - 1016);
+        write(x, from, bytes);
+        int answer = x.call(1016, 0);
+        due("routine", x.fault(0), 1016);
+        due("offset", x.fault(1), offset);
         return answer;
     }
 
@@ -948,12 +944,12 @@ public final class PromisesTest {
         due("value", x.global(1, 0), 55);
 
         part = "13 accelerate: SPENT";
+        // Three steps a round: of the 134th round the CALL is the 400th, what it calls is not.
         write(x, 192, 0, CALL, G0, 2, 0, JUMP, 1);
-        due("the third of three steps is the 400th but one", x.call(192, 0), SPENT);
-        due("who calls", x.fault(0), 192);
-        due("400 = 3 * 133 + 1: the CALL is made, what it calls is not", x.fault(1), 1);
         int before = x.count(2);
-        x.call(192, 0);
+        due("spent", x.call(192, 0), SPENT);
+        due("who calls", x.fault(0), 192);
+        due("where", x.fault(1), 1);
         due("400", x.count(2) - before, 400);
     }
 
