@@ -718,6 +718,10 @@ public final class PromisesTest {
         due("401 steps", x.call(128, 2), SPENT);
         due("the one that would begin", x.fault(1), 13);
         due("each call has its own", x.call(64, 0), SPENT);
+        write(x, 64, 0, ADD, G0, G0, 1, ADD, G0, G0, 1, JUMP, 1);
+        x.global(0, 0);
+        due("spent behind an ADD", x.call(64, 0), SPENT);
+        due("which is done once", x.global(0, 0), 133 * 2 + 1);
     }
 
     private static void walk() {
