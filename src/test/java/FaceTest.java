@@ -51,7 +51,9 @@ public final class FaceTest {
         due("the face", seen.equals(new TreeSet<>(Set.of(FACE))) ? 1 : 0, 1);
         for (Class<?> c : MadeCalls.class.getDeclaredClasses()) {
             for (Method m : c.getDeclaredMethods()) {
-                due(m + " bears no name of the face", names.contains(m.getName()) ? 1 : 0, 0);
+                boolean hidden = Modifier.isPrivate(m.getModifiers());
+                boolean twice = hidden && names.contains(m.getName());
+                due(m + " bears no name of the face", twice ? 1 : 0, 0);
             }
         }
         for (Method m : MadeCalls.class.getDeclaredMethods()) {
@@ -110,17 +112,31 @@ public final class FaceTest {
     /** Every method with every pair of edges, in memories of different contents. */
     private static void anyArguments() {
         for (int fill = 0; fill < 256; fill++) {
-            MadeCalls x = new MadeCalls(EDGES[fill % EDGES.length]);
-            for (int p = 0; p < 1024; p++) {
-                x.poke(p, fill < 16 ? fill : p * fill + (p >> 3) & (fill % 2 == 0 ? 15 : 143));
-            }
             for (int a : EDGES) {
+                // A new object for each first number: it is used for at most 512 calls.
+                MadeCalls x = filled(fill);
+                for (int i = 0; i < 4; i++) {
+                    x.argument(i, EDGES[(fill + 7 * i) % EDGES.length]);
+                }
                 oneNumber(x, a);
                 for (int b : EDGES) {
                     twoNumbers(x, a, b);
                 }
             }
         }
+    }
+
+    private static MadeCalls filled(int fill) {
+        MadeCalls x = new MadeCalls(EDGES[fill % EDGES.length]);
+        int mask = fill % 2 == 0 ? 15 : 143;
+        for (int place = 0; place < 1024; place += 8) {
+            long w = 0;
+            for (int p = place; p < place + 8; p++) {
+                w = w << 8 | (fill < 16 ? fill : p * fill + (p >> 3) & mask);
+            }
+            x.feed(place, 8, w);
+        }
+        return x;
     }
 
     private static void oneNumber(MadeCalls x, int a) {
@@ -153,7 +169,7 @@ public final class FaceTest {
         due("global " + a, thrownBy(x, 2, a, b), a < 0 || a > 7 ? 1 : 0);
     }
 
-    /** 1: the exception of the document; 2: one that the machine made of a wrong index. */
+    /** 1: the exception of the document; 2: the machine's own, whose text begins like this. */
     private static int thrownBy(MadeCalls x, int which, int a, int b) {
         try {
             if (which == 0) {
@@ -164,7 +180,7 @@ public final class FaceTest {
                 x.global(a, b);
             }
         } catch (ArrayIndexOutOfBoundsException e) {
-            return e.getMessage() != null && e.getMessage().startsWith("no such ") ? 1 : 2;
+            return e.getMessage() != null && e.getMessage().startsWith("Index ") ? 2 : 1;
         }
         return 0;
     }

@@ -7,7 +7,11 @@ import java.util.List;
  * the document, written as plainly as it can be, and of made calls against walked ones.
  */
 public final class ModelTest {
-    private static final int RUNS = 1500, CALLS = 400, TWIN_RUNS = 400, TWIN_CALLS = 60;
+    private static final int RUNS = 20000, TWIN_RUNS = 4000;
+    /** An object is used for at most so many calls; the last ones look at what was changed. */
+    private static final int CALLS = 512, LOOKS = 60;
+    /** So many calls one round may take: a routine of 62 instructions is written by 62. */
+    private static final int DEAREST = 90;
     private static final int[] HOMES = {0, 40, 80, 120, 128, 200, 316, 508, 960, 1000, 1020};
 
     private static int wrong = 0;
@@ -40,30 +44,32 @@ public final class ModelTest {
 
     private static void againstModel(int run) {
         int most = chance(24) - 2;
-        MadeCalls x = new MadeCalls(most);
+        Counted x = new Counted(most);
         Model m = new Model(most);
         for (int home : HOMES) {
             if (chance(5) != 0) {
                 writeBoth(x, m, home, routine(home));
             }
         }
-        for (int i = 0; i < CALLS && wrong < 10; i++) {
+        while (x.used < CALLS - LOOKS - 16 - DEAREST && wrong < 10) {
             oneCall(run, x, m);
-            for (int what = 0; what < 8; what++) {
-                due(run, "count " + what + " behind call " + i, x.count(what), m.counts[what]);
-            }
         }
-        for (int p = 0; p < 1024; p++) {
-            due(run, "peek " + p, x.peek(p), m.bytes[p]);
+        for (int what = 0; what < 8; what++) {
+            due(run, "count " + what, x.count(what), m.counts[what]);
         }
         for (int g = 0; g < 8; g++) {
             due(run, "global " + g, x.global(g, 0), m.globals[g]);
         }
-        caughtSeen += x.count(7);
-        madeStepsSeen += x.count(3);
+        for (int back = 1; back <= LOOKS && back <= m.changed.size(); back++) {
+            int p = m.changed.get(m.changed.size() - back);
+            due(run, "peek " + p, x.peek(p), m.bytes[p]);
+        }
+        due(run, "not used too often", x.used <= CALLS ? 1 : 0, 1);
+        caughtSeen += m.counts[7];
+        madeStepsSeen += m.counts[3];
     }
 
-    private static void oneCall(int run, MadeCalls x, Model m) {
+    private static void oneCall(int run, Counted x, Model m) {
         int a = chance(12) == 0 ? chance(1040) - 8 : HOMES[chance(HOMES.length)];
         int n = chance(20) == 0 ? chance(8) - 2 : chance(5);
         switch (chance(16)) {
@@ -78,9 +84,11 @@ public final class ModelTest {
                 int answer = m.perform(a, n, made);
                 due(run, "call " + a + " " + n, made ? x.call(a, n) : x.walk(a, n), answer);
                 due(run, "result", x.result(), m.value);
-                for (int what = -1; what < 4; what++) {
+                for (int what = 0; what < 3; what++) {
                     due(run, "fault " + what, x.fault(what), m.told(what));
                 }
+                int what = chance(8);
+                due(run, "count " + what, x.count(what), m.counts[what]);
                 if (answer < -10) {
                     faultsSeen[-10 - answer]++;
                 }
@@ -125,7 +133,7 @@ public final class ModelTest {
             case 14: {
                 int page = chance(20) - 2;
                 due(run, "drop", x.drop(page), page < 0 || page > 15 ? -2 : m.dropPage(page));
-                for (int i = -1; i < 22; i++) {
+                for (int i = -1; i <= m.kept.size(); i++) {
                     int due = i < 0 || i >= m.kept.size() ? -1 : m.kept.get(i).address;
                     due(run, "kept " + i, x.kept(i), due);
                 }
@@ -139,16 +147,15 @@ public final class ModelTest {
 
     /** Of two that are alike one makes routines and calls, the other one walks. */
     private static void madeAgainstWalked(int run) {
-        MadeCalls made = new MadeCalls(20);
-        MadeCalls walked = new MadeCalls(0);
-        for (int i = 0; i < TWIN_CALLS && wrong < 10; i++) {
+        Counted made = new Counted(20);
+        Counted walked = new Counted(0);
+        for (int home : HOMES) {
+            writeTwins(made, walked, home);
+        }
+        while (made.used < CALLS - LOOKS - 16 - DEAREST && wrong < 10) {
             int home = HOMES[chance(HOMES.length)];
-            if (i < 12 || chance(6) == 0) {
-                int[] bytes = routine(home);
-                for (int k = 0; k < bytes.length && home + k < 1024; k++) {
-                    made.poke(home + k, bytes[k]);
-                    walked.poke(home + k, bytes[k]);
-                }
+            if (chance(6) == 0) {
+                writeTwins(made, walked, home);
             }
             for (int h : HOMES) {
                 made.make(h);
@@ -161,22 +168,30 @@ public final class ModelTest {
             for (int what = 0; what < 3; what++) {
                 due(run, "twin fault", made.fault(what), walked.fault(what));
             }
-            due(run, "twin steps", made.count(2), walked.count(2));
-            due(run, "twin calls", made.count(4), walked.count(4));
-            due(run, "twin caught", made.count(7), walked.count(7));
-            for (int g = 0; g < 8; g++) {
-                int was = made.global(g, g * i);
-                due(run, "twin global", was, walked.global(g, g * i));
+            for (int what : new int[] {2, 4, 7}) {
+                due(run, "twin count " + what, made.count(what), walked.count(what));
             }
         }
-        for (int p = 0; p < 1024; p++) {
+        for (int g = 0; g < 8; g++) {
+            due(run, "twin global", made.global(g, 0), walked.global(g, 0));
+        }
+        // All bytes would be more calls than an object is used for.
+        for (int i = 0; i < LOOKS; i++) {
+            int p = chance(2) == 0 ? chance(128) : chance(1024);
             due(run, "twin peek " + p, made.peek(p), walked.peek(p));
         }
+        due(run, "not used too often", made.used <= CALLS && walked.used <= CALLS ? 1 : 0, 1);
     }
 
-    private static void writeBoth(MadeCalls x, Model m, int home, int[] bytes) {
+    private static void writeTwins(Counted made, Counted walked, int home) {
+        int[] bytes = routine(home);
+        made.write(home, bytes);
+        walked.write(home, bytes);
+    }
+
+    private static void writeBoth(Counted x, Model m, int home, int[] bytes) {
+        x.write(home, bytes);
         for (int k = 0; k < bytes.length && home + k < 1024; k++) {
-            x.poke(home + k, bytes[k]);
             m.poke(home + k, bytes[k]);
         }
     }
@@ -289,6 +304,94 @@ public final class ModelTest {
         }
     }
 
+    /** An object of the class, with how often it was used. */
+    private static final class Counted {
+        private final MadeCalls x;
+        int used = 0;
+
+        Counted(int most) {
+            x = new MadeCalls(most);
+        }
+
+        private MadeCalls use() {
+            used++;
+            return x;
+        }
+
+        int poke(int place, int v) {
+            return use().poke(place, v);
+        }
+
+        int feed(int place, int n, long w) {
+            return use().feed(place, n, w);
+        }
+
+        int peek(int place) {
+            return use().peek(place);
+        }
+
+        int global(int g, int v) {
+            return use().global(g, v);
+        }
+
+        int make(int address) {
+            return use().make(address);
+        }
+
+        int place() {
+            return use().place();
+        }
+
+        int argument(int i, int v) {
+            return use().argument(i, v);
+        }
+
+        int call(int address, int n) {
+            return use().call(address, n);
+        }
+
+        int walk(int address, int n) {
+            return use().walk(address, n);
+        }
+
+        int result() {
+            return use().result();
+        }
+
+        int fault(int what) {
+            return use().fault(what);
+        }
+
+        int accelerate(int address, int number) {
+            return use().accelerate(address, number);
+        }
+
+        int kept(int i) {
+            return use().kept(i);
+        }
+
+        int drop(int page) {
+            return use().drop(page);
+        }
+
+        int count(int what) {
+            return use().count(what);
+        }
+
+        /** As many as there is room for, eight by one call. */
+        void write(int place, int[] bytes) {
+            int end = Math.min(bytes.length, 1024 - place);
+            for (int from = 0; from < end; from += 8) {
+                int n = Math.min(8, end - from);
+                long w = 0;
+                for (int i = 0; i < n; i++) {
+                    w = w << 8 | bytes[from + i];
+                }
+                feed(place + from, n, w);
+            }
+        }
+    }
+
     private static final class Fault extends RuntimeException {
         private static final long serialVersionUID = 1L;
         final int kind, address, offset, number;
@@ -326,6 +429,7 @@ public final class ModelTest {
         final int[] bytes = new int[1024], globals = new int[8], arguments = new int[4];
         final int[] counts = new int[8], builtIns = new int[256];
         final List<Copy> kept = new ArrayList<>();
+        final List<Integer> changed = new ArrayList<>();
         final int most;
         int place = -1, value = 0, steps = 0;
         boolean byMade;
@@ -346,6 +450,7 @@ public final class ModelTest {
                 return 0;
             }
             bytes[at] = v & 255;
+            changed.add(at);
             return dropPage(at / 64);
         }
 
