@@ -1403,6 +1403,16 @@ public final class BoundariesTest {
             due("far behind", placeOfOffset(head, 255), 4);
             due("0", placeOfOffset(head, 0), head[0] == CATCH ? NONE : 4);
         }
+        // Those that jump are themselves jumped to, from behind and from in front.
+        due("jumps to jumps", placeOf(routine(0, JUMP, 7, JUMP, 1, JUMP, 3, JUMP, 5, END)), NONE);
+        Counted x = new Counted(1);
+        x.write(0, 0, JUMP, 9, JUMP, 11, JUMP, 3, RETURN, 7, JUMP, 5, RETURN, 44, END);
+        due("made", x.make(0), 7);
+        due("goes from one to the next", x.call(0, 0), 0);
+        due("value", x.result(), 44);
+        due("steps, all made ones", x.count(MADE_STEPS), 5);
+        // What is the index of an INSTRUCTION is not its OFFSET.
+        due("an index", placeOf(routine(0, JUMP, 1, JUMP, 2, END)), 3);
     }
 
     private static int placeOfOffset(int[] head, int t) {
