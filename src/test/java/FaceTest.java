@@ -27,7 +27,6 @@ public final class FaceTest {
         methods();
         constructorsAndFields();
         nestedClasses();
-        readmeExample();
         anyArguments();
         System.out.println("face: " + wrong + " not as due");
         if (wrong != 0) {
@@ -98,15 +97,6 @@ public final class FaceTest {
             due(c + " is static", Modifier.isStatic(kind) ? 1 : 0, 1);
             due(c + " is hidden", Modifier.isPublic(kind) || Modifier.isProtected(kind) ? 1 : 0, 0);
         }
-    }
-
-    private static void readmeExample() {
-        MadeCalls x = new MadeCalls(4);
-        due("feed", x.feed(0, 8, 0x01_02_80_80_80_00_80_0FL), 0);
-        due("make", x.make(0), 3);
-        due("argument", x.argument(0, 21), 1);
-        due("call", x.call(0, 1), 0);
-        due("result", x.result(), 42);
     }
 
     /** Every method with every pair of edges, in memories of different contents. */
